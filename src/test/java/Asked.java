@@ -1,0 +1,86 @@
+/** What tests ask of an object through its face alone. */
+final class Asked {
+    static final int THROWS = Integer.MIN_VALUE;
+
+    private Asked() {
+    }
+
+    /** node(), or THROWS; an exception that the machine threw by itself is not caught. */
+    static int node(PpmTrees x, int end, int i, int what) {
+        try {
+            return x.node(end, i, what);
+        } catch (ArrayIndexOutOfBoundsException e) {
+            String text = e.getMessage();
+            if (text != null && text.startsWith("Index ")) {
+                throw new AssertionError("the machine threw", e);
+            }
+            return THROWS;
+        }
+    }
+
+    static void addAll(PpmTrees x, int... bytes) {
+        for (int b : bytes) {
+            x.add(b);
+        }
+    }
+
+    static void addRepeated(PpmTrees x, int b, int times) {
+        for (int i = 0; i < times; i++) {
+            x.add(b);
+        }
+    }
+
+    static String row(PpmTrees x, int which) {
+        StringBuilder s = new StringBuilder();
+        for (int i = 0; i < x.size(which); i++) {
+            s.append(i == 0 ? "" : " ").append(x.octet(which, i));
+        }
+        return s.toString();
+    }
+
+    /** NODES as parent/byte/count/steps, by their numbers. */
+    static String tree(PpmTrees x, int end) {
+        StringBuilder s = new StringBuilder();
+        for (int i = 0; i < x.nodes(end); i++) {
+            s.append(i == 0 ? "" : " ");
+            for (int what = 0; what <= 3; what++) {
+                s.append(what == 0 ? "" : "/").append(node(x, end, i, what));
+            }
+        }
+        return s.toString();
+    }
+
+    static String latest(PpmTrees x, int end) {
+        StringBuilder s = new StringBuilder();
+        for (int i = 0; x.latest(end, i) >= 0; i++) {
+            s.append(i == 0 ? "" : " ").append(x.latest(end, i));
+        }
+        return s.toString();
+    }
+
+    /** The SIGNS of the latest pack() as excluded/context. */
+    static String signs(PpmTrees x) {
+        StringBuilder s = new StringBuilder();
+        for (int i = 0; x.sign(i, 0) >= 0; i++) {
+            s.append(i == 0 ? "" : " ").append(x.sign(i, 0)).append('/').append(x.sign(i, 1));
+        }
+        return s.toString();
+    }
+
+    /** All of an object that can be seen without changing it. */
+    static String all(PpmTrees x) {
+        StringBuilder s = new StringBuilder();
+        for (int which = 0; which <= 2; which++) {
+            s.append(row(x, which)).append('|');
+        }
+        for (int what = 0; what <= 2; what++) {
+            s.append(x.told(what)).append('|');
+        }
+        s.append(signs(x)).append('|').append(x.place()).append('|').append(x.equal());
+        for (int end = 0; end <= 1; end++) {
+            s.append('|').append(tree(x, end)).append('|').append(latest(x, end));
+            s.append('|').append(x.restarted(end));
+        }
+        return s.toString();
+    }
+}
