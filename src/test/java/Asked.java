@@ -1,4 +1,7 @@
-/** What tests ask of an object through its face alone. */
+/**
+ * What tests ask of an object through its face alone. To see all of a great tree they may go
+ * beyond 512 calls: the document leaves free what is answered then, and this class goes on.
+ */
 final class Asked {
     static final int THROWS = Integer.MIN_VALUE;
 
@@ -16,6 +19,14 @@ final class Asked {
             }
             return THROWS;
         }
+    }
+
+    /** A new object whose writer has said these bytes. */
+    static PpmTrees packed(int order, int room, int... bytes) {
+        PpmTrees x = new PpmTrees(order, room);
+        addAll(x, bytes);
+        x.pack();
+        return x;
     }
 
     static void addAll(PpmTrees x, int... bytes) {

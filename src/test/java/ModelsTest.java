@@ -29,13 +29,6 @@ public final class ModelsTest {
         DUE.end();
     }
 
-    private static PpmTrees packed(int order, int room, int... bytes) {
-        PpmTrees x = new PpmTrees(order, room);
-        Asked.addAll(x, bytes);
-        x.pack();
-        return x;
-    }
-
     private static void say(PpmTrees x, int... bytes) {
         x.clear();
         Asked.addAll(x, bytes);
@@ -43,7 +36,7 @@ public final class ModelsTest {
     }
 
     private static void nodesAreCounted() {
-        PpmTrees x = packed(2, 50, 1, 2, 1);
+        PpmTrees x = Asked.packed(2, 50, 1, 2, 1);
         // 1; 2 and 12; 1 (there), 21 and 121.
         DUE.is("nodes(0)", x.nodes(0), 6);
         DUE.is("nodes(1)", x.nodes(1), 1);
@@ -55,20 +48,20 @@ public final class ModelsTest {
     }
 
     private static void nodesAreTold() {
-        PpmTrees x = packed(2, 50, 1, 2, 1);
+        PpmTrees x = Asked.packed(2, 50, 1, 2, 1);
         DUE.is("the tree", Asked.tree(x, 0), "-1/-1/0/0 0/1/2/1 0/2/1/1 1/2/1/2 2/1/1/2 3/1/1/3");
         DUE.is("the other tree", Asked.tree(x, 1), "-1/-1/0/0");
         // Children of lesser bytes that come later have greater numbers.
-        x = packed(0, 50, 9, 5, 7, 255, 0);
+        x = Asked.packed(0, 50, 9, 5, 7, 255, 0);
         DUE.is("falling bytes", Asked.tree(x, 0),
             "-1/-1/0/0 0/9/1/1 0/5/1/1 0/7/1/1 0/255/1/1 0/0/1/1");
-        x = packed(4, 50, 1, 1, 1, 1, 1, 1, 1);
+        x = Asked.packed(4, 50, 1, 1, 1, 1, 1, 1, 1);
         DUE.is("steps of order 4", Asked.tree(x, 0),
             "-1/-1/0/0 0/1/2/1 1/1/2/2 2/1/2/3 3/1/2/4 4/1/3/5");
     }
 
     private static void nodeIsRefused() {
-        PpmTrees x = packed(2, 50, 1, 2, 1);
+        PpmTrees x = Asked.packed(2, 50, 1, 2, 1);
         for (int end : NO_END) {
             DUE.is("node(" + end + ", 0, 0)", Asked.node(x, end, 0, 0), -1);
             DUE.is("node(" + end + ", 99, 0)", Asked.node(x, end, 99, 0), -1);
@@ -87,7 +80,7 @@ public final class ModelsTest {
     }
 
     private static void latestBytesAreTold() {
-        PpmTrees x = packed(3, 50, 4, 5);
+        PpmTrees x = Asked.packed(3, 50, 4, 5);
         DUE.is("two latest", Asked.latest(x, 0), "4 5");
         say(x, 6, 7);
         DUE.is("three latest", Asked.latest(x, 0), "5 6 7");
@@ -98,6 +91,7 @@ public final class ModelsTest {
         }
         for (int end : NO_END) {
             DUE.is("latest(" + end + ", 0)", x.latest(end, 0), -1);
+            DUE.is("latest(" + end + ", -1)", x.latest(end, -1), -1);
         }
         // END is not learned.
         say(x);
@@ -141,7 +135,7 @@ public final class ModelsTest {
     }
 
     private static void restartsComeWhenThereIsNoRoom() {
-        PpmTrees x = packed(1, 9, 1, 2, 3, 4);
+        PpmTrees x = Asked.packed(1, 9, 1, 2, 3, 4);
         DUE.is("nodes(0)", x.nodes(0), 8);
         // 5 gets the last node; in context 1 there is none for it, and all goes.
         say(x, 5);
@@ -152,7 +146,7 @@ public final class ModelsTest {
         DUE.is("the tree anew", Asked.tree(x, 0), "-1/-1/0/0 0/5/1/1");
         DUE.is("latest anew", Asked.latest(x, 0), "5");
         // A full tree is no reason by itself: what is there is counted on.
-        x = packed(0, 8, 1, 2, 3, 4, 5, 6, 7);
+        x = Asked.packed(0, 8, 1, 2, 3, 4, 5, 6, 7);
         say(x, 7, 6, 7);
         DUE.is("a full tree", Asked.tree(x, 0),
             "-1/-1/0/0 0/1/1/1 0/2/1/1 0/3/1/1 0/4/1/1 0/5/1/1 0/6/2/1 0/7/3/1");
@@ -194,7 +188,7 @@ public final class ModelsTest {
     }
 
     private static void resetBeginsAnew() {
-        PpmTrees x = packed(2, 50, 1, 2, 1);
+        PpmTrees x = Asked.packed(2, 50, 1, 2, 1);
         x.open();
         for (int end : NO_END) {
             DUE.is("reset(" + end + ")", x.reset(end), -1);
@@ -225,6 +219,13 @@ public final class ModelsTest {
         x.reset(0);
         say(x, 1);
         DUE.is("equal(): made twice", x.equal(), 1);
+        say(x, 2);
+        DUE.is("equal(): one node more at 0", x.equal(), 0);
+        x.save(0);
+        x.restore(1, 0);
+        x.reset(0);
+        say(x, 1);
+        DUE.is("equal(): one node more at 1", x.equal(), 0);
         x = new PpmTrees(0, 8);
         say(x, 1, 2, 3, 4, 5, 6, 7, 8, 9);
         x.reset(0);
@@ -253,7 +254,7 @@ public final class ModelsTest {
     }
 
     private static void modelsAreKept() {
-        PpmTrees x = packed(2, 50, 1, 2, 1);
+        PpmTrees x = Asked.packed(2, 50, 1, 2, 1);
         String tree = Asked.tree(x, 0);
         DUE.is("save(0)", x.save(0), 0);
         DUE.is("save(1)", x.save(1), 1);
@@ -278,7 +279,7 @@ public final class ModelsTest {
     }
 
     private static void keptModelsStandAlone() {
-        PpmTrees x = packed(1, 50, 1, 2);
+        PpmTrees x = Asked.packed(1, 50, 1, 2);
         String tree = Asked.tree(x, 0);
         x.save(0);
         x.restore(0, 0);
@@ -301,7 +302,7 @@ public final class ModelsTest {
     }
 
     private static void keepingIsRefused() {
-        PpmTrees x = packed(1, 50, 1, 2);
+        PpmTrees x = Asked.packed(1, 50, 1, 2);
         for (int end : NO_END) {
             DUE.is("save(" + end + ")", x.save(end), -1);
             DUE.is("restore(" + end + ", 0)", x.restore(end, 0), -1);
@@ -342,7 +343,7 @@ public final class ModelsTest {
     }
 
     private static void costChangesNothing() {
-        PpmTrees x = packed(2, 50, 1, 2, 1);
+        PpmTrees x = Asked.packed(2, 50, 1, 2, 1);
         String before = Asked.all(x);
         for (int sign = 0; sign <= 256; sign++) {
             x.cost(0, sign);
@@ -352,7 +353,7 @@ public final class ModelsTest {
     }
 
     private static void costIsRefused() {
-        PpmTrees x = packed(2, 50, 1, 2, 1);
+        PpmTrees x = Asked.packed(2, 50, 1, 2, 1);
         for (int end : NO_END) {
             DUE.is("cost(" + end + ", 0)", x.cost(end, 0), -1);
         }

@@ -11,6 +11,7 @@ public final class SayingTest {
         packSaysNoBytes();
         packTellsSignsByContexts();
         packTellsTheGreatestContextFirst();
+        packTellsLesserBytesFirst();
         packExcludesAllBytes();
         packGoesOnWithItsModel();
         packAndOpenAreAlike();
@@ -19,18 +20,12 @@ public final class SayingTest {
         openSeesTooManyBytes();
         openSeesWhatNoWriterWrote();
         openLooksAheadOfASign();
+        placeCanBeTheFirstByte();
         openWithAFaultChangesNothing();
         placeIsOfTheLatestOpen();
         toldIsOfTheLatestPack();
         signIsRefused();
         DUE.end();
-    }
-
-    private static PpmTrees packed(int order, int room, int... bytes) {
-        PpmTrees x = new PpmTrees(order, room);
-        Asked.addAll(x, bytes);
-        x.pack();
-        return x;
     }
 
     private static void packSaysNoBytes() {
@@ -47,7 +42,7 @@ public final class SayingTest {
     }
 
     private static void packTellsSignsByContexts() {
-        PpmTrees x = packed(1, 50, 'a', 'b', 'a', 'b', 'a', 'c', 'a');
+        PpmTrees x = Asked.packed(1, 50, 'a', 'b', 'a', 'b', 'a', 'c', 'a');
         DUE.is("SIGNS of ababaca", Asked.signs(x), "0/-3 1/-3 0/0 0/1 0/1 2/-3 0/0 3/-3");
         DUE.is("ESCAPES of ababaca", x.told(1), 5);
         DUE.is("the tree of ababaca", Asked.tree(x, 0),
@@ -60,10 +55,17 @@ public final class SayingTest {
 
     private static void packTellsTheGreatestContextFirst() {
         // Behind abcabc: the greatest context is bc (order 2), where a stands: found there.
-        PpmTrees x = packed(2, 100, 'a', 'b', 'c', 'a', 'b', 'c', 'a', 'x', 'b', 'c', 'b');
+        PpmTrees x = Asked.packed(2, 100, 'a', 'b', 'c', 'a', 'b', 'c', 'a', 'x', 'b', 'c', 'b');
         DUE.is("SIGNS of order 2", Asked.signs(x),
             "0/-3 1/-3 2/-3 0/0 0/1 0/2 0/2 3/-3 0/0 0/1 1/0 4/-3");
         DUE.is("open() of order 2", x.open(), 11);
+    }
+
+    private static void packTellsLesserBytesFirst() {
+        PpmTrees x = Asked.packed(0, 50, 9, 5, 7, 5, 9, 255, 0, 7, 0);
+        DUE.is("OUT of bytes that do not rise", Asked.row(x, 1), "9 121 62 135 151 113 66 32 176");
+        DUE.is("BITS of bytes that do not rise", x.told(0), 68);
+        DUE.is("open() of bytes that do not rise", x.open(), 9);
     }
 
     private static void packExcludesAllBytes() {
@@ -85,7 +87,7 @@ public final class SayingTest {
     }
 
     private static void packGoesOnWithItsModel() {
-        PpmTrees x = packed(3, 200, 1, 2, 3, 1, 2, 3, 1, 2, 3);
+        PpmTrees x = Asked.packed(3, 200, 1, 2, 3, 1, 2, 3, 1, 2, 3);
         int first = x.size(1);
         x.open();
         int second = x.pack();
@@ -171,6 +173,17 @@ public final class SayingTest {
         x.alter(1, 64);
         DUE.is("open() of what should be", x.open(), 0);
         DUE.is("place() of no fault", x.place(), -3);
+    }
+
+    private static void placeCanBeTheFirstByte() {
+        // A reader that knows all bytes tells END by a 1, and behind END 01 is put: 10100000.
+        DUE.is("open() of 160", readerOf(256, 160).open(), 0);
+        PpmTrees x = readerOf(256, 255);
+        DUE.is("open() of 255", x.open(), -13);
+        DUE.is("place() of 255", x.place(), 0);
+        x = readerOf(256, 160, 0);
+        DUE.is("open() of 160, 0", x.open(), -13);
+        DUE.is("place() of 160, 0: how many there should be", x.place(), 1);
     }
 
     /** A reader that knows the bytes from 0 on, and an OUT that is made by hand. */
