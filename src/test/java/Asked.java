@@ -43,7 +43,8 @@ final class Asked {
 
     static String row(PpmTrees x, int which) {
         StringBuilder s = new StringBuilder();
-        for (int i = 0; i < x.size(which); i++) {
+        int many = x.size(which);
+        for (int i = 0; i < many; i++) {
             s.append(i == 0 ? "" : " ").append(x.octet(which, i));
         }
         return s.toString();
@@ -52,7 +53,8 @@ final class Asked {
     /** NODES as parent/byte/count/steps, by their numbers. */
     static String tree(PpmTrees x, int end) {
         StringBuilder s = new StringBuilder();
-        for (int i = 0; i < x.nodes(end); i++) {
+        int many = x.nodes(end);
+        for (int i = 0; i < many; i++) {
             s.append(i == 0 ? "" : " ");
             for (int what = 0; what <= 3; what++) {
                 s.append(what == 0 ? "" : "/").append(node(x, end, i, what));
@@ -78,20 +80,24 @@ final class Asked {
         return s.toString();
     }
 
+    /** A tree, and the latest bytes. */
+    static String model(PpmTrees x, int end) {
+        return tree(x, end) + "|" + latest(x, end);
+    }
+
+    /** What an end has: its model, its restarts, and its row: OUT, or THE RECEIVED. */
+    static String end(PpmTrees x, int end) {
+        return model(x, end) + "|" + x.restarted(end) + "|" + row(x, 1 + end);
+    }
+
+    /** What is known of the latest pack(). */
+    static String packing(PpmTrees x) {
+        return x.told(0) + "|" + x.told(1) + "|" + x.told(2) + "|" + signs(x);
+    }
+
     /** All of an object that can be seen without changing it. */
     static String all(PpmTrees x) {
-        StringBuilder s = new StringBuilder();
-        for (int which = 0; which <= 2; which++) {
-            s.append(row(x, which)).append('|');
-        }
-        for (int what = 0; what <= 2; what++) {
-            s.append(x.told(what)).append('|');
-        }
-        s.append(signs(x)).append('|').append(x.place()).append('|').append(x.equal());
-        for (int end = 0; end <= 1; end++) {
-            s.append('|').append(tree(x, end)).append('|').append(latest(x, end));
-            s.append('|').append(x.restarted(end));
-        }
-        return s.toString();
+        return row(x, 0) + "|" + packing(x) + "|" + end(x, 0) + "|" + end(x, 1)
+            + "|" + x.place() + "|" + x.equal();
     }
 }

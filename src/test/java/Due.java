@@ -1,11 +1,20 @@
 /** Compares answers with those that are due; prints each that is not, and ends with 1 then. */
 final class Due {
-    private final String name;
+    private String name;
     private int asked;
     private int wrong;
 
     Due(String name) {
         this.name = name;
+    }
+
+    /** What is asked from now on is told under this name. */
+    void within(String part) {
+        name = part;
+    }
+
+    int asked() {
+        return asked;
     }
 
     void is(String call, long got, long want) {
