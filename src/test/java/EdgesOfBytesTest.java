@@ -386,8 +386,11 @@ public final class EdgesOfBytesTest extends Edges {
     @Edge(of = 4, says = "and 1 more, modulo 256, if z % 16 is 0")
     static void fillEchoesOneMore() {
         is("z is 0", filled(1, 0, 2, 7), "7 8");
-        is("z is 12720", filled(1, 28, 2, 7), "7 8");
-        is("z is 15 modulo 16", filled(1, 5, 2, 7), "7 7");
+        is("z is 31376, 0 modulo 16", filled(1, 33, 2, 7), "7 8");
+        is("1 modulo 16", filled(1, 18, 2, 7), "7 7");
+        is("8 modulo 16", filled(1, 9, 2, 7), "7 7");
+        is("15 modulo 16", filled(1, 5, 2, 7), "7 7");
+        is("0 modulo 15, not 16", filled(1, 13, 2, 7), "7 7");
     }
 
     @Edge(of = 4, says = "and 1 more, modulo 256, if z % 16 is 0")

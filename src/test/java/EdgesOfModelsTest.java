@@ -46,6 +46,11 @@ public final class EdgesOfModelsTest extends Edges {
         x.reset(0);
     }
 
+    private static String allButTheModelOf(PpmTrees x, int end) {
+        return Asked.end(x, 1 - end) + "|" + Asked.row(x, 0) + "|" + Asked.row(x, 1 + end) + "|"
+            + x.restarted(end) + "|" + x.place() + "|" + Asked.packing(x);
+    }
+
     // ---- promise 14
 
     @Edge(of = 14, says = "How many NODES an end has.")
@@ -331,21 +336,22 @@ public final class EdgesOfModelsTest extends Edges {
     static void resetLeavesTheOtherEnd() {
         for (int end = 0; end <= 1; end++) {
             PpmTrees x = rich();
-            String before = Asked.end(x, 1 - end) + "|" + Asked.row(x, 0) + "|" + Asked.row(x, 1 + end)
-                + "|" + x.place() + "|" + Asked.packing(x);
+            String before = allButTheModelOf(x, end);
             x.reset(end);
-            is("all but end " + end, Asked.end(x, 1 - end) + "|" + Asked.row(x, 0) + "|"
-                + Asked.row(x, 1 + end) + "|" + x.place() + "|" + Asked.packing(x), before);
+            is("all but the model of " + end, allButTheModelOf(x, end), before);
         }
     }
 
     @Edge(of = 18, says = "An end's MODEL is as at first")
     static void resetLeavesWhatIsKept() {
-        PpmTrees x = rich();
-        String model = Asked.model(x, 0);
-        x.reset(0);
-        is("restore(0, 1)", x.restore(0, 1), 6);
-        is("the model", Asked.model(x, 0), model);
+        for (int end = 0; end <= 1; end++) {
+            PpmTrees x = rich();
+            String model = Asked.model(x, end);
+            int kept = x.save(end);
+            x.reset(end);
+            x.restore(end, kept);
+            is("the model of " + end, Asked.model(x, end), model);
+        }
     }
 
     @Edge(of = 18, says = "BAD")
@@ -500,6 +506,23 @@ public final class EdgesOfModelsTest extends Edges {
         is("all that is seen", Asked.all(x), before);
     }
 
+    @Edge(of = 20, says = "An end's MODEL is kept")
+    static void savedModelStaysWhenTheEndLearns() {
+        PpmTrees x = Asked.packed(2, 50, 1, 2, 1);
+        x.open();
+        String model = Asked.model(x, 0);
+        is("save(0)", x.save(0), 0);
+        is("save(1)", x.save(1), 1);
+        for (int i = 0; i < 2; i++) {
+            say(x, 3, 4, 5);
+            is("open()", x.open(), 3);
+        }
+        for (int kept = 0; kept <= 1; kept++) {
+            x.restore(1 - kept, kept);
+            is("what is kept of " + kept, Asked.model(x, 1 - kept), model);
+        }
+    }
+
     @Edge(of = 20, says = "BAD")
     static void saveOfNoEnd() {
         refusedEnds("save", PpmTrees::save, -1, 2, MIN, MAX);
@@ -549,12 +572,17 @@ public final class EdgesOfModelsTest extends Edges {
 
     @Edge(of = 21, says = "An end's MODEL becomes what is kept")
     static void restoreLeavesTheOtherEnd() {
-        PpmTrees x = rich();
-        String before = Asked.end(x, 1) + "|" + Asked.row(x, 0) + "|" + Asked.row(x, 1) + "|"
-            + x.place() + "|" + x.restarted(0) + "|" + Asked.packing(x);
-        x.restore(0, 0);
-        is("all but the writer's model", Asked.end(x, 1) + "|" + Asked.row(x, 0) + "|"
-            + Asked.row(x, 1) + "|" + x.place() + "|" + x.restarted(0) + "|" + Asked.packing(x), before);
+        for (int end = 0; end <= 1; end++) {
+            PpmTrees x = Asked.packed(2, 50, 7, 7, 8);
+            x.save(0);
+            x.reset(0);
+            say(x, 1, 2);
+            x.open();
+            say(x, 9);
+            String before = allButTheModelOf(x, end);
+            is("restore(" + end + ", 0)", x.restore(end, 0), 6);
+            is("all but the model of " + end, allButTheModelOf(x, end), before);
+        }
     }
 
     @Edge(of = 21, says = "An end's MODEL becomes what is kept")

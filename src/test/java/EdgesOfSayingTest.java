@@ -199,16 +199,22 @@ public final class EdgesOfSayingTest extends Edges {
         is("open() as at first", x.open(), 1);
     }
 
-    /**
-     * A reader that has restarted, has received, and has an OUT, made by hand, of which it reads
-     * enough to restart again.
-     */
+    /** A reader that has restarted, has received, and knows something. */
     private static PpmTrees restartedReader() {
         PpmTrees x = new PpmTrees(1, 8);
         x.fill(40, 3, 0);
+        x.add(1);
+        x.add(2);
         x.pack();
-        is("open()", x.open(), 40);
+        is("open() of 42", x.open(), 42);
         holds("it restarted", x.restarted(1) > 0);
+        holds("it knows something", x.nodes(1) > 1 && x.latest(1, 0) >= 0);
+        return x;
+    }
+
+    /** The same, with an OUT of so many bytes that the model restarts again while it is read. */
+    private static PpmTrees restartingReader() {
+        PpmTrees x = restartedReader();
         x.fill(60, 8, 0);
         x.pack();
         return x;
@@ -224,17 +230,14 @@ public final class EdgesOfSayingTest extends Edges {
 
     @Edge(of = 10, says = AS_BEFORE)
     static void fault1LeavesTheReader() {
-        PpmTrees x = restartedReader();
+        PpmTrees x = restartingReader();
         x.cut(x.size(1) - 4);
         faultLeavesTheReader(x, -11);
     }
 
     @Edge(of = 10, says = AS_BEFORE)
     static void fault2LeavesTheReader() {
-        PpmTrees x = new PpmTrees(1, 8);
-        x.fill(40, 3, 0);
-        x.pack();
-        x.open();
+        PpmTrees x = restartedReader();
         // Bytes that restart the model, then so many 7s that no more than 300 can be received.
         x.clear();
         x.fill(30, 8, 0);
@@ -248,7 +251,7 @@ public final class EdgesOfSayingTest extends Edges {
 
     @Edge(of = 10, says = AS_BEFORE)
     static void fault3LeavesTheReader() {
-        PpmTrees x = restartedReader();
+        PpmTrees x = restartingReader();
         holds("the last bit is not of the text", x.told(0) % 8 != 0);
         int last = x.size(1) - 1;
         x.alter(last, x.octet(1, last) ^ 1);
@@ -269,7 +272,7 @@ public final class EdgesOfSayingTest extends Edges {
 
     @Edge(of = 10, says = AS_BEFORE)
     static void openBehindEachFault() {
-        PpmTrees x = restartedReader();
+        PpmTrees x = restartingReader();
         int size = x.size(1);
         String out = Asked.row(x, 1);
         int last = x.octet(1, size - 1);
@@ -277,7 +280,7 @@ public final class EdgesOfSayingTest extends Edges {
         is("open() with fault 3", x.open(), -13);
         x.alter(size - 1, last);
         is("OUT", Asked.row(x, 1), out);
-        is("open()", x.open(), 100);
+        is("open()", x.open(), 102);
         is("THE RECEIVED", Asked.row(x, 2), Asked.row(x, 0));
         is("equal()", x.equal(), 1);
         is("restarted(1)", x.restarted(1), x.restarted(0));
