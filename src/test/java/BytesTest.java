@@ -9,14 +9,10 @@ public final class BytesTest {
 
     public static void main(String[] args) {
         newObjectIsEmpty();
-        orderIsTheNearest();
-        leastRoomIsTheNearest();
-        mostRoomIsTheNearest();
         clearEmptiesTheTextAlone();
         addTakesBytesUpTo300();
         fillMakesBytes();
         fillEchoes();
-        fillIsRefused();
         sizeAndOctet();
         alterChangesOneByteOfOut();
         cutShortensOut();
@@ -28,59 +24,6 @@ public final class BytesTest {
         DUE.is("all of a new object", Asked.all(x),
             "|-3|-3|-3||-1/-1/0/0||0||-1/-1/0/0||0||-3|1");
         DUE.is("forget() of a new object", x.forget(), 0);
-    }
-
-    private static void orderIsTheNearest() {
-        int[] orders = {MIN, -1, 0, 1, 2, 3, 4, 5, MAX};
-        String[] latest = {"", "", "", "6", "5 6", "4 5 6", "3 4 5 6", "3 4 5 6", "3 4 5 6"};
-        for (int i = 0; i < orders.length; i++) {
-            PpmTrees x = new PpmTrees(orders[i], 100);
-            Asked.addAll(x, 1, 2, 3, 4, 5, 6);
-            x.pack();
-            DUE.is("the latest, order " + orders[i], Asked.latest(x, 0), latest[i]);
-        }
-    }
-
-    private static void leastRoomIsTheNearest() {
-        for (int room : new int[] {MIN, -1, 0, 7, 8}) {
-            PpmTrees x = new PpmTrees(0, room);
-            Asked.addAll(x, 1, 2, 3, 4, 5, 6, 7);
-            x.pack();
-            DUE.is("nodes, room " + room, x.nodes(0), 8);
-            x.clear();
-            x.add(8);
-            x.pack();
-            DUE.is("nodes behind a restart, room " + room, x.nodes(0), 1);
-        }
-        PpmTrees x = new PpmTrees(0, 9);
-        Asked.addAll(x, 1, 2, 3, 4, 5, 6, 7, 8);
-        x.pack();
-        DUE.is("nodes, room 9", x.nodes(0), 9);
-    }
-
-    private static void mostRoomIsTheNearest() {
-        int[][] rooms = {{1499, 1499}, {1500, 1500}, {1501, 1500}, {MAX, 1500}};
-        for (int[] r : rooms) {
-            int most = 0;
-            for (int seed = 0; seed < 60; seed++) {
-                most = Math.max(most, mostNodesSeen(r[0], seed));
-            }
-            DUE.is("most nodes, room " + r[0], most, r[1]);
-        }
-    }
-
-    private static int mostNodesSeen(int room, int seed) {
-        PpmTrees x = new PpmTrees(4, room);
-        x.fill(300, seed, 0);
-        x.pack();
-        int most = x.nodes(0);
-        for (int i = 0; i < 40; i++) {
-            x.clear();
-            x.fill(1, seed * 41 + i, 0);
-            x.pack();
-            most = Math.max(most, x.nodes(0));
-        }
-        return most;
     }
 
     private static void clearEmptiesTheTextAlone() {
@@ -152,21 +95,6 @@ public final class BytesTest {
         filled(20, 0x20000000, 2, "2 2 3 2 2 3 2 2 3 2 2 3 2 2 3 2 3 3 2 3", 1, 2, 3);
         filled(20, -1, 2, "104 105 106 107 108 109 110 111 113 113 114 115 116 118 118 119 104 105 106 107",
             100, 101, 102, 103, 104, 105, 106, 107, 108, 109, 110, 111, 112, 113, 114, 115, 116, 117, 118, 119);
-    }
-
-    private static void fillIsRefused() {
-        PpmTrees x = new PpmTrees(1, 50);
-        x.add(77);
-        int[][] bad = {
-            {0, 1, 0}, {-1, 1, 0}, {301, 1, 0}, {MIN, 1, 0}, {MAX, 1, 0},
-            {1, 1, -1}, {1, 1, 4}, {1, 1, MIN}, {1, 1, MAX}, {300, 1, 4}, {301, 1, 4}
-        };
-        for (int[] b : bad) {
-            DUE.is("fill(" + b[0] + ", 1, " + b[2] + ")", x.fill(b[0], b[1], b[2]), -1);
-        }
-        DUE.is("fill(300, 1, 0) of 1", x.fill(300, 1, 0), -2);
-        DUE.is("THE TEXT behind refusals", Asked.row(x, 0), "77");
-        DUE.is("fill(299, 1, 0) of 1", x.fill(299, 1, 0), 300);
     }
 
     private static void sizeAndOctet() {

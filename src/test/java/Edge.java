@@ -3,7 +3,10 @@ import java.lang.annotation.Retention;
 import java.lang.annotation.RetentionPolicy;
 import java.lang.annotation.Target;
 
-/** A test of one boundary case: of which promise (TERMS: none), and the words that name it there. */
+/**
+ * A test of one boundary case: of which promise (TERMS: what the document says ahead of them), and
+ * the words that name it there.
+ */
 @Retention(RetentionPolicy.RUNTIME)
 @Target(ElementType.METHOD)
 @interface Edge {

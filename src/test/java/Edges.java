@@ -57,15 +57,15 @@ abstract class Edges {
         DUE.holds("it asked something", DUE.asked() > before);
     }
 
-    /** The text of each promise by its number, and of the Terms by TERMS. */
+    /** The text of each promise by its number, and what stands ahead of them by TERMS. */
     private static Map<Integer, String> sections() throws IOException {
         Map<Integer, String> all = new TreeMap<>();
         for (String section : Files.readString(DOCUMENT).split("(?m)^## ")) {
             if (section.startsWith(PROMISE)) {
                 int number = Integer.parseInt(section.substring(PROMISE.length(), section.indexOf(':')));
                 all.put(number, section);
-            } else if (section.startsWith("Terms")) {
-                all.put(Edge.TERMS, section);
+            } else if (section.startsWith("What it is") || section.startsWith("Terms")) {
+                all.merge(Edge.TERMS, section, String::concat);
             }
         }
         return all;

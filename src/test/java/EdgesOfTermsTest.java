@@ -576,7 +576,7 @@ public final class EdgesOfTermsTest extends Edges {
         holds("open() is a fault", x.open() < -10);
     }
 
-    // ---- refusals
+    // ---- refusals, and the last call
 
     @Edge(of = Edge.TERMS, says = "REFUSALS change nothing")
     static void manyRefusalsChangeNothing() {
@@ -584,5 +584,16 @@ public final class EdgesOfTermsTest extends Edges {
             + x.octet(3, 0) + x.alter(9, 9) + x.cut(10) + x.told(3) + x.sign(9, 2) + x.nodes(2)
             + x.node(2, 0, 0) + Asked.node(x, 0, 6, 0) + x.latest(2, 0) + x.restarted(2) + x.reset(2)
             + x.save(2) + x.restore(2, 0) + x.cost(2, 257));
+    }
+
+    @Edge(of = Edge.TERMS, says = "An object is used for at most 512 calls after it has been made")
+    static void call512IsAnsweredLikeTheOthers() {
+        PpmTrees x = new PpmTrees(4, 1500);
+        x.fill(300, 5, 0);
+        for (int i = 0; i < 255; i++) {
+            x.pack();
+            x.open();
+        }
+        is("equal() as call 512", x.equal(), 1);
     }
 }

@@ -11,21 +11,13 @@ public final class ModelsTest {
     public static void main(String[] args) {
         nodesAreCounted();
         nodesAreTold();
-        nodeIsRefused();
         latestBytesAreTold();
-        countsAreHalved();
-        countsOfOneContextAreHalved();
-        restartsComeWhenThereIsNoRoom();
         restartsAreCounted();
         resetBeginsAnew();
         equalSeesCountsAndBytes();
-        equalSeesTheLatest();
         modelsAreKept();
         keptModelsStandAlone();
-        keepingIsRefused();
         costIsTold();
-        costChangesNothing();
-        costIsRefused();
         DUE.end();
     }
 
@@ -60,25 +52,6 @@ public final class ModelsTest {
             "-1/-1/0/0 0/1/2/1 1/1/2/2 2/1/2/3 3/1/2/4 4/1/3/5");
     }
 
-    private static void nodeIsRefused() {
-        PpmTrees x = Asked.packed(2, 50, 1, 2, 1);
-        for (int end : NO_END) {
-            DUE.is("node(" + end + ", 0, 0)", Asked.node(x, end, 0, 0), -1);
-            DUE.is("node(" + end + ", 99, 0)", Asked.node(x, end, 99, 0), -1);
-        }
-        for (int what : new int[] {-1, 4, MIN, MAX}) {
-            DUE.is("node(0, 0, " + what + ")", Asked.node(x, 0, 0, what), -1);
-            DUE.is("node(0, 99, " + what + ")", Asked.node(x, 0, 99, what), -1);
-        }
-        for (int what = 0; what <= 3; what++) {
-            for (int i : new int[] {-1, 6, 49, 50, 51, MIN, MAX}) {
-                DUE.is("node(0, " + i + ", " + what + ")", Asked.node(x, 0, i, what), Asked.THROWS);
-            }
-            DUE.is("node(1, 1, " + what + ")", Asked.node(x, 1, 1, what), Asked.THROWS);
-        }
-        DUE.is("node(0, 5, 0)", Asked.node(x, 0, 5, 0), 3);
-    }
-
     private static void latestBytesAreTold() {
         PpmTrees x = Asked.packed(3, 50, 4, 5);
         DUE.is("two latest", Asked.latest(x, 0), "4 5");
@@ -96,63 +69,6 @@ public final class ModelsTest {
         // END is not learned.
         say(x);
         DUE.is("latest behind END", Asked.latest(x, 0), "5 6 7");
-    }
-
-    private static void countsAreHalved() {
-        PpmTrees x = new PpmTrees(0, 8);
-        Asked.addRepeated(x, 7, 200);
-        x.pack();
-        DUE.is("the count of 200", Asked.node(x, 0, 1, 2), 200);
-        say(x, 7);
-        DUE.is("the count of 201", Asked.node(x, 0, 1, 2), 101);
-        x = new PpmTrees(0, 8);
-        Asked.addRepeated(x, 7, 300);
-        x.pack();
-        DUE.is("the count of 300", Asked.node(x, 0, 1, 2), 200);
-        DUE.is("open()", x.open(), 300);
-        x = new PpmTrees(0, 8);
-        Asked.addRepeated(x, 7, 198);
-        Asked.addRepeated(x, 3, 2);
-        x.pack();
-        DUE.is("counts of 200", Asked.tree(x, 0), "-1/-1/0/0 0/7/198/1 0/3/2/1");
-        say(x, 5);
-        DUE.is("counts behind a new node", Asked.tree(x, 0), "-1/-1/0/0 0/7/99/1 0/3/1/1 0/5/1/1");
-    }
-
-    private static void countsOfOneContextAreHalved() {
-        PpmTrees x = new PpmTrees(1, 8);
-        Asked.addRepeated(x, 7, 201);
-        x.pack();
-        DUE.is("counts of 200 in context 1", Asked.tree(x, 0), "-1/-1/0/0 0/7/2/1 1/7/200/2");
-        say(x, 7);
-        DUE.is("counts of 201 in context 1", Asked.tree(x, 0), "-1/-1/0/0 0/7/2/1 1/7/101/2");
-        x.reset(0);
-        Asked.addRepeated(x, 7, 200);
-        x.pack();
-        x.reset(1);
-        DUE.is("open()", x.open(), 201);
-        DUE.is("equal()", x.equal(), 1);
-    }
-
-    private static void restartsComeWhenThereIsNoRoom() {
-        PpmTrees x = Asked.packed(1, 9, 1, 2, 3, 4);
-        DUE.is("nodes(0)", x.nodes(0), 8);
-        // 5 gets the last node; in context 1 there is none for it, and all goes.
-        say(x, 5);
-        DUE.is("the tree behind a restart", Asked.tree(x, 0), "-1/-1/0/0");
-        DUE.is("latest behind a restart", Asked.latest(x, 0), "");
-        DUE.is("restarted(0)", x.restarted(0), 1);
-        say(x, 5);
-        DUE.is("the tree anew", Asked.tree(x, 0), "-1/-1/0/0 0/5/1/1");
-        DUE.is("latest anew", Asked.latest(x, 0), "5");
-        // A full tree is no reason by itself: what is there is counted on.
-        x = Asked.packed(0, 8, 1, 2, 3, 4, 5, 6, 7);
-        say(x, 7, 6, 7);
-        DUE.is("a full tree", Asked.tree(x, 0),
-            "-1/-1/0/0 0/1/1/1 0/2/1/1 0/3/1/1 0/4/1/1 0/5/1/1 0/6/2/1 0/7/3/1");
-        DUE.is("restarted(0) of a full tree", x.restarted(0), 0);
-        say(x, 8);
-        DUE.is("restarted(0) of one byte more", x.restarted(0), 1);
     }
 
     private static void restartsAreCounted() {
@@ -232,27 +148,6 @@ public final class ModelsTest {
         DUE.is("equal() is not of restarts", x.equal(), 1);
     }
 
-    private static void equalSeesTheLatest() {
-        PpmTrees x = new PpmTrees(1, 1500);
-        for (int part = 0; part < 2; part++) {
-            x.clear();
-            for (int b = 0; b < 100; b++) {
-                Asked.addAll(x, 255, 100 * part + b);
-            }
-            x.pack();
-        }
-        say(x, 255);
-        x.save(0);
-        x.restore(1, 0);
-        DUE.is("equal() behind restore", x.equal(), 1);
-        // 200 bytes came once behind 255: one more, and all counts are halved to 1 again.
-        say(x, 7);
-        DUE.is("equal(): other latest", x.equal(), 0);
-        DUE.is("the same trees", Asked.tree(x, 0), Asked.tree(x, 1));
-        DUE.is("latest of 0", Asked.latest(x, 0), "7");
-        DUE.is("latest of 1", Asked.latest(x, 1), "255");
-    }
-
     private static void modelsAreKept() {
         PpmTrees x = Asked.packed(2, 50, 1, 2, 1);
         String tree = Asked.tree(x, 0);
@@ -301,28 +196,6 @@ public final class ModelsTest {
         DUE.is("equal() by it", x.equal(), 1);
     }
 
-    private static void keepingIsRefused() {
-        PpmTrees x = Asked.packed(1, 50, 1, 2);
-        for (int end : NO_END) {
-            DUE.is("save(" + end + ")", x.save(end), -1);
-            DUE.is("restore(" + end + ", 0)", x.restore(end, 0), -1);
-        }
-        DUE.is("restore(0, 0) of none", x.restore(0, 0), -1);
-        for (int i = 0; i < 4; i++) {
-            DUE.is("save(1)", x.save(1), i);
-        }
-        DUE.is("save(0) of 4", x.save(0), -2);
-        DUE.is("save(2) of 4", x.save(2), -1);
-        for (int kept : new int[] {-1, 4, MIN, MAX}) {
-            DUE.is("restore(0, " + kept + ")", x.restore(0, kept), -1);
-        }
-        DUE.is("restore(2, 0)", x.restore(2, 0), -1);
-        DUE.is("nodes(0) behind refusals", x.nodes(0), 4);
-        DUE.is("restore(0, 3)", x.restore(0, 3), 1);
-        DUE.is("forget()", x.forget(), 4);
-        DUE.is("restore(0, 0) behind forget()", x.restore(0, 0), -1);
-    }
-
     private static void costIsTold() {
         PpmTrees x = new PpmTrees(1, 50);
         DUE.is("cost of 1 of 257", x.cost(0, 0), 9);
@@ -340,26 +213,5 @@ public final class ModelsTest {
         say(x, 0);
         DUE.is("cost of 1 of 2", x.cost(0, 0), 1);
         DUE.is("cost of 1 of 2, 1 of 256", x.cost(0, 1), 9);
-    }
-
-    private static void costChangesNothing() {
-        PpmTrees x = Asked.packed(2, 50, 1, 2, 1);
-        String before = Asked.all(x);
-        for (int sign = 0; sign <= 256; sign++) {
-            x.cost(0, sign);
-        }
-        DUE.is("all behind cost()", Asked.all(x), before);
-        DUE.is("open() behind cost()", x.open(), 3);
-    }
-
-    private static void costIsRefused() {
-        PpmTrees x = Asked.packed(2, 50, 1, 2, 1);
-        for (int end : NO_END) {
-            DUE.is("cost(" + end + ", 0)", x.cost(end, 0), -1);
-        }
-        for (int sign : new int[] {-1, 257, MIN, MAX}) {
-            DUE.is("cost(0, " + sign + ")", x.cost(0, sign), -1);
-            DUE.is("cost(1, " + sign + ")", x.cost(1, sign), -1);
-        }
     }
 }

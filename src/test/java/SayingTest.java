@@ -8,37 +8,17 @@ public final class SayingTest {
     }
 
     public static void main(String[] args) {
-        packSaysNoBytes();
         packTellsSignsByContexts();
         packTellsTheGreatestContextFirst();
         packTellsLesserBytesFirst();
         packExcludesAllBytes();
         packGoesOnWithItsModel();
         packAndOpenAreAlike();
-        openTakes300();
         openSeesBitsBehindTheEnd();
         openSeesTooManyBytes();
         openSeesWhatNoWriterWrote();
-        openLooksAheadOfASign();
-        placeCanBeTheFirstByte();
-        openWithAFaultChangesNothing();
-        placeIsOfTheLatestOpen();
         toldIsOfTheLatestPack();
-        signIsRefused();
         DUE.end();
-    }
-
-    private static void packSaysNoBytes() {
-        PpmTrees x = new PpmTrees(3, 50);
-        DUE.is("pack() of no bytes", x.pack(), 2);
-        // END is the span from 256, 1 long, of 257: low 65280, high 65535; eight 1s, then 01.
-        DUE.is("OUT of no bytes", Asked.row(x, 1), "255 64");
-        DUE.is("BITS of no bytes", x.told(0), 10);
-        DUE.is("ESCAPES of no bytes", x.told(1), 0);
-        DUE.is("RESTARTS of no bytes", x.told(2), 0);
-        DUE.is("SIGNS of no bytes", Asked.signs(x), "0/-3");
-        DUE.is("nodes(0) of no bytes", x.nodes(0), 1);
-        DUE.is("open() of no bytes", x.open(), 0);
     }
 
     private static void packTellsSignsByContexts() {
@@ -117,13 +97,6 @@ public final class SayingTest {
         }
     }
 
-    private static void openTakes300() {
-        PpmTrees x = new PpmTrees(2, 400);
-        x.fill(300, 5, 3);
-        x.pack();
-        DUE.is("open() of 300 bytes", x.open(), 300);
-    }
-
     private static void openSeesBitsBehindTheEnd() {
         PpmTrees x = new PpmTrees(2, 400);
         DUE.is("open() of no OUT", x.open(), -11);
@@ -175,90 +148,6 @@ public final class SayingTest {
         DUE.is("place() of no fault", x.place(), -3);
     }
 
-    private static void placeCanBeTheFirstByte() {
-        // A reader that knows all bytes tells END by a 1, and behind END 01 is put: 10100000.
-        DUE.is("open() of 160", readerOf(256, 160).open(), 0);
-        PpmTrees x = readerOf(256, 255);
-        DUE.is("open() of 255", x.open(), -13);
-        DUE.is("place() of 255", x.place(), 0);
-        x = readerOf(256, 160, 0);
-        DUE.is("open() of 160, 0", x.open(), -13);
-        DUE.is("place() of 160, 0: how many there should be", x.place(), 1);
-    }
-
-    /** A reader that knows the bytes from 0 on, and an OUT that is made by hand. */
-    private static PpmTrees readerOf(int known, int... out) {
-        PpmTrees x = new PpmTrees(0, 1500);
-        for (int b = 0; b < known; b++) {
-            x.add(b);
-        }
-        x.pack();
-        x.open();
-        x.pack();
-        x.cut(out.length);
-        for (int i = 0; i < out.length; i++) {
-            x.alter(i, out[i]);
-        }
-        return x;
-    }
-
-    private static void openLooksAheadOfASign() {
-        // Ahead of its END, 16 bits behind the end were taken: those are not too many.
-        PpmTrees x = readerOf(187, 84, 129, 93);
-        DUE.is("open() with 16 bits behind the end", x.open(), -13);
-        DUE.is("place(): how many it has", x.place(), 3);
-        // Here it would be END too, but ahead of it 17 were taken.
-        x = readerOf(235, 137);
-        DUE.is("open() with 17 bits behind the end", x.open(), -11);
-        DUE.is("place() of fault 1", x.place(), -3);
-    }
-
-    private static void openWithAFaultChangesNothing() {
-        PpmTrees x = new PpmTrees(2, 9);
-        x.fill(60, 3, 1);
-        x.pack();
-        x.open();
-        x.fill(104, 9, 0);
-        x.pack();
-        DUE.holds("the last bit is not of the text", x.told(0) % 8 != 0);
-        String before = Asked.tree(x, 1) + Asked.latest(x, 1) + Asked.row(x, 2) + Asked.row(x, 1)
-            + x.restarted(1) + " " + x.told(0);
-        int last = x.size(1) - 1;
-        int was = x.octet(1, last);
-        x.alter(last, was ^ 1);
-        int fault = x.open();
-        DUE.is("open() of another last bit", fault, -13);
-        DUE.is("place()", x.place(), last);
-        x.alter(last, was);
-        DUE.is("all behind a fault", Asked.tree(x, 1) + Asked.latest(x, 1) + Asked.row(x, 2)
-            + Asked.row(x, 1) + x.restarted(1) + " " + x.told(0), before);
-        DUE.is("open() as if there had been none", x.open(), 164);
-        DUE.is("equal()", x.equal(), 1);
-        DUE.is("restarted", x.restarted(1), x.restarted(0));
-    }
-
-    private static void placeIsOfTheLatestOpen() {
-        PpmTrees x = new PpmTrees(2, 50);
-        DUE.is("place() of none asked", x.place(), -3);
-        x.pack();
-        DUE.is("place() behind pack()", x.place(), -3);
-        x.alter(1, 65);
-        x.open();
-        x.alter(1, 64);
-        DUE.is("place() stays when OUT changes", x.place(), 1);
-        x.pack();
-        x.reset(1);
-        DUE.is("place() stays behind pack()", x.place(), 1);
-        DUE.is("place() asked again", x.place(), 1);
-        x.open();
-        DUE.is("place() behind an open() without fault", x.place(), -3);
-        x.alter(1, 65);
-        x.open();
-        x.cut(0);
-        x.open();
-        DUE.is("place() behind another fault", x.place(), -3);
-    }
-
     private static void toldIsOfTheLatestPack() {
         PpmTrees x = new PpmTrees(1, 8);
         for (int what : new int[] {-1, 3, MIN, MAX}) {
@@ -282,21 +171,5 @@ public final class SayingTest {
         for (int what : new int[] {-1, 3, MIN, MAX}) {
             DUE.is("told(" + what + ") behind pack()", x.told(what), -1);
         }
-    }
-
-    private static void signIsRefused() {
-        PpmTrees x = new PpmTrees(1, 50);
-        DUE.is("sign(0, 0) of none asked", x.sign(0, 0), -1);
-        DUE.is("sign(0, 1) of none asked", x.sign(0, 1), -1);
-        Asked.addAll(x, 'a', 'b');
-        x.pack();
-        x.clear();
-        DUE.is("sign(2, 0) is END", x.sign(2, 0), 2);
-        int[][] bad = {{-1, 0}, {3, 0}, {3, 1}, {MIN, 0}, {MAX, 1}, {0, -1}, {0, 2}, {0, MIN}, {0, MAX}};
-        for (int[] b : bad) {
-            DUE.is("sign(" + b[0] + ", " + b[1] + ")", x.sign(b[0], b[1]), -1);
-        }
-        x.pack();
-        DUE.is("sign(1, 0) of a shorter text", x.sign(1, 0), -1);
     }
 }
