@@ -95,9 +95,23 @@ final class Asked {
         return x.told(0) + "|" + x.told(1) + "|" + x.told(2) + "|" + signs(x);
     }
 
-    /** All of an object that can be seen without changing it. */
+    /**
+     * All of an object that can be seen without changing it. What is asked until it is refused
+     * comes last: a refusal that changes something must not hide itself.
+     */
     static String all(PpmTrees x) {
-        return row(x, 0) + "|" + packing(x) + "|" + end(x, 0) + "|" + end(x, 1)
-            + "|" + x.place() + "|" + x.equal();
+        StringBuilder s = new StringBuilder();
+        for (int which = 0; which <= 2; which++) {
+            s.append(row(x, which)).append('|');
+        }
+        for (int what = 0; what <= 2; what++) {
+            s.append(x.told(what)).append('|');
+        }
+        s.append(x.place()).append('|').append(x.equal()).append('|');
+        for (int end = 0; end <= 1; end++) {
+            s.append(x.restarted(end)).append('|').append(tree(x, end)).append('|');
+        }
+        s.append(latest(x, 0)).append('|').append(latest(x, 1)).append('|').append(signs(x));
+        return s.toString();
     }
 }

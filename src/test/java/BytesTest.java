@@ -22,7 +22,7 @@ public final class BytesTest {
     private static void newObjectIsEmpty() {
         PpmTrees x = new PpmTrees(2, 50);
         DUE.is("all of a new object", Asked.all(x),
-            "|-3|-3|-3||-1/-1/0/0||0||-1/-1/0/0||0||-3|1");
+            "|||-3|-3|-3|-3|1|0|-1/-1/0/0|0|-1/-1/0/0|||");
         DUE.is("forget() of a new object", x.forget(), 0);
     }
 

@@ -126,6 +126,15 @@ abstract class Edges {
         return new PpmTrees(2, 50);
     }
 
+    /** An object that has what it can have without a pack(). */
+    static PpmTrees neverPacked() {
+        PpmTrees x = fresh();
+        Asked.addAll(x, 5, 6);
+        x.open();
+        x.save(0);
+        return x;
+    }
+
     /** OUT becomes a row made by hand. */
     static void makeOut(PpmTrees x, int... row) {
         while (x.size(1) < row.length && x.add(x.size(0) * 37 % 256) > 0) {

@@ -338,8 +338,7 @@ public final class EdgesOfSayingTest extends Edges {
     @Edge(of = 11, says = NO_PLACE)
     static void placeOfNoneAsked() {
         refused(Edges::fresh, "place()", PpmTrees::place, NO);
-        PpmTrees x = Asked.packed(2, 50, 1);
-        is("place() behind pack()", x.place(), NO);
+        refused(() -> Asked.packed(2, 50, 1), "place() behind pack()", PpmTrees::place, NO);
     }
 
     @Edge(of = 11, says = NO_PLACE)
@@ -391,11 +390,11 @@ public final class EdgesOfSayingTest extends Edges {
         for (int what = 0; what <= 2; what++) {
             int w = what;
             refused(Edges::fresh, "told(" + w + ")", x -> x.told(w), NO);
+            refused(Edges::neverPacked, "told(" + w + ") behind other calls", x -> x.told(w), NO);
+            PpmTrees x = neverPacked();
+            x.told(w);
+            is("forget() behind told(" + w + ")", x.forget(), 1);
         }
-        PpmTrees x = fresh();
-        x.add(5);
-        x.open();
-        is("told(0) behind other calls", x.told(0), NO);
     }
 
     @Edge(of = 12, says = "BAD")
@@ -412,8 +411,8 @@ public final class EdgesOfSayingTest extends Edges {
 
     @Edge(of = 12, says = "BAD; NO")
     static void toldOfAWrongWhatAndNoPack() {
-        refused(Edges::fresh, "told(-1) of none", x -> x.told(-1), BAD);
-        refused(Edges::fresh, "told(3) of none", x -> x.told(3), BAD);
+        refused(Edges::neverPacked, "told(-1) of none", x -> x.told(-1), BAD);
+        refused(Edges::neverPacked, "told(3) of none", x -> x.told(3), BAD);
     }
 
     @Edge(of = 12, says = "what = 0 how many BITS, 1 ESCAPES, 2 how often THE MODEL RESTARTED")
@@ -465,8 +464,8 @@ public final class EdgesOfSayingTest extends Edges {
 
     @Edge(of = 13, says = NO_SIGN)
     static void signOfNoPack() {
-        refused(Edges::fresh, "sign(0, 0) of none", x -> x.sign(0, 0), BAD);
-        refused(Edges::fresh, "sign(0, 1) of none", x -> x.sign(0, 1), BAD);
+        refused(Edges::neverPacked, "sign(0, 0) of none", x -> x.sign(0, 0), BAD);
+        refused(Edges::neverPacked, "sign(0, 1) of none", x -> x.sign(0, 1), BAD);
     }
 
     @Edge(of = 13, says = NO_SIGN)
